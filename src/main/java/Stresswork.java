@@ -180,7 +180,7 @@ public final class Stresswork {
         if (isComplete()) {
             return true;
         }
-        return joints.count >= 4 && isRigidWithout(NONE) && hangsWithoutAnyTwo()
+        return joints.count >= 4 && keepWithout(NONE) == rigidCount() && hangsWithoutAnyTwo()
                 && isRigidWithoutAnyOne();
     }
 
@@ -482,7 +482,8 @@ public final class Stresswork {
         keptSet = 0;
         for (int member = 0; member < members.count; member++) {
             if (members.has(member) && member != skipped
-                    && pebbles.cover(members.from[member], members.to[member])) {
+                    && pebbles.canCover(members.from[member], members.to[member])) {
+                pebbles.cover(members.from[member], members.to[member]);
                 keptSet |= 1L << member;
             }
         }
@@ -497,16 +498,12 @@ public final class Stresswork {
         return 2 * joints.count - 3;
     }
 
-    private boolean isRigidWithout(int skipped) {
-        return keepWithout(skipped) == rigidCount();
-    }
-
     private boolean isRigidWithoutAnyOne() {
         keepWithout(NONE);
         // As many are kept without a member that is not kept itself.
         long kept = keptSet;
         for (int member = 0; member < members.count; member++) {
-            if (hasBit(kept, member) && !isRigidWithout(member)) {
+            if (hasBit(kept, member) && keepWithout(member) < rigidCount()) {
                 return false;
             }
         }
@@ -930,16 +927,13 @@ public final class Stresswork {
             }
         }
 
-        boolean cover(int joint, int other) {
-            if (!canCover(joint, other)) {
-                return false;
-            }
-            leadsTo[2 * joint] = other;
-            return true;
-        }
-
+        /** Afterwards all four pebbles are free, if it is so. */
         boolean canCover(int joint, int other) {
             return freeBoth(joint, other) && freeBoth(other, joint);
+        }
+
+        void cover(int joint, int other) {
+            leadsTo[2 * joint] = other;
         }
 
         private boolean freeBoth(int joint, int other) {
@@ -963,14 +957,15 @@ public final class Stresswork {
             int seen = bit(joint);
             int length = 1;
             queue[0] = joint;
-            for (int at = 0; at < length; at++) {
+            for (int at = 0; at < length && at < MOST_JOINTS; at++) {
                 for (int pebble = 2 * queue[at]; pebble <= 2 * queue[at] + 1; pebble++) {
                     int next = leadsTo[pebble];
-                    if (next != NONE && !hasBit(seen, next)) {
+                    if (next != NONE && !hasBit(seen, next) && length < MOST_JOINTS) {
                         seen |= bit(next);
                         cameBy[next] = pebble;
-                        if (next != other && freePebble(next) != NONE) {
-                            passBack(next, joint);
+                        int free = next == other ? NONE : freePebble(next);
+                        if (free != NONE) {
+                            passBack(next, free, joint);
                             return true;
                         }
                         queue[length] = next;
@@ -988,10 +983,10 @@ public final class Stresswork {
             return leadsTo[2 * joint + 1] == NONE ? 2 * joint + 1 : NONE;
         }
 
-        private void passBack(int found, int joint) {
+        private void passBack(int found, int spare, int joint) {
             int at = found;
-            int free = freePebble(found);
-            for (int round = 0; round < MOST_JOINTS && at != joint && free != NONE; round++) {
+            int free = spare;
+            for (int round = 0; round < MOST_JOINTS && at != joint; round++) {
                 int pebble = cameBy[at];
                 if (pebble == NONE) {
                     return;
