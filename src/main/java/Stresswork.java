@@ -180,8 +180,10 @@ public final class Stresswork {
         if (isComplete()) {
             return true;
         }
-        return joints.count >= 4 && keepWithout(NONE) == rigidCount() && hangsWithoutAnyTwo()
-                && isRigidWithoutAnyOne();
+        if (joints.count < 4 || keepWithout(NONE) != rigidCount()) {
+            return false;
+        }
+        return hangsWithoutAnyTwo() && isRigidWithoutEachOf(keptSet);
     }
 
     // ---- steps
@@ -498,12 +500,10 @@ public final class Stresswork {
         return 2 * joints.count - 3;
     }
 
-    private boolean isRigidWithoutAnyOne() {
-        keepWithout(NONE);
-        // As many are kept without a member that is not kept itself.
-        long kept = keptSet;
+    /** Of the kept ones alone: without one that is not kept itself, as many are kept. */
+    private boolean isRigidWithoutEachOf(long set) {
         for (int member = 0; member < members.count; member++) {
-            if (hasBit(kept, member) && keepWithout(member) < rigidCount()) {
+            if (hasBit(set, member) && keepWithout(member) < rigidCount()) {
                 return false;
             }
         }

@@ -25,6 +25,7 @@ public final class PromisesTest {
         flex();
         balance();
         rankAt();
+        rankOnDrawnLines();
         kept();
         block();
         lacks();
@@ -389,6 +390,27 @@ public final class PromisesTest {
         same(5, yard.rankAt(still + 1), "the seed behind it");
         eachRefused(Check.ARGUMENT, PromisesTest::busy, "rankAt", List.of(
                 y -> y.rankAt(-1), y -> y.rankAt(PRIME), y -> y.rankAt(Integer.MIN_VALUE)));
+    }
+
+    private static void rankOnDrawnLines() {
+        // Seeds that draw three joints onto one line, looked for one by one.
+        onLine(0, 1, 2, 317464, 624488);
+        onLine(0, 1, 3, 229628, 707691);
+        onLine(1, 2, 3, 513370, 767945);
+        onLine(0, 4, 9, 11493, 445626);
+    }
+
+    private static void onLine(int a, int b, int c, int... seeds) {
+        Stresswork yard = loose(10);
+        yard.member(a, b, Stresswork.BAR);
+        yard.member(b, c, Stresswork.CABLE);
+        yard.member(c, a, Stresswork.STRUT);
+        yard.pin(a, true);
+        for (int seed : seeds) {
+            same(2, yard.rankAt(seed), "a triangle on a drawn line, by " + seed);
+            same(3, yard.rankAt(seed - 1), "a triangle, by the seed ahead of " + seed);
+            same(3, yard.rankAt(seed + 1), "a triangle, by the seed behind " + seed);
+        }
     }
 
     private static int still() {
