@@ -34,6 +34,9 @@ public final class LanguageTest {
         thrownAre(code);
         CHECK.same(true, count("\\bclass\\b", code) <= 12, "at most twelve classes");
         methodLines(code);
+        CHECK.same(0, count("\\bstatic\\s*\\{", code), "static blocks");
+        CHECK.same(0, count("\\bstatic (?!final)[\\w\\[\\] ]+(=|;)", code), "static fields that are not final");
+        CHECK.same(0, count("\\w \\w+\\((\\w[\\w\\[\\]]* \\w+,\\s*){7}", code), "methods with more than seven parameters");
         CHECK.end("LanguageTest");
     }
 

@@ -2,7 +2,15 @@ import java.util.function.Function;
 
 /** What can be seen of an object: all answers in one text. It is of no use afterwards. */
 final class Observed {
-    private Observed() {
+    private static final int JOINTS = 10;
+    private static final int MEMBERS = 40;
+    private static final String NO_SUCH = "IndexOutOfBoundsException";
+
+    private final Stresswork yard;
+    private final StringBuilder text = new StringBuilder();
+
+    private Observed(Stresswork yard) {
+        this.yard = yard;
     }
 
     /** The answer of a call, or the simple name of what it threw. */
@@ -15,53 +23,102 @@ final class Observed {
     }
 
     static String everything(Stresswork yard) {
-        StringBuilder text = new StringBuilder();
-        text.append(yard.rank()).append(' ').append(yard.motions()).append(' ').append(yard.stresses());
-        text.append(' ').append(yard.rankAt(5)).append(' ').append(yard.kept()).append(' ').append(yard.lacks());
-        text.append(' ').append(yard.isGlobal()).append(' ').append(yard.unbalanced());
-        text.append(' ').append(yard.isProper()).append(' ').append(yard.matrix());
-        for (int joint = 0; joint < 10; joint++) {
-            jointOf(yard, joint, text);
+        Observed observed = new Observed(yard);
+        observed.frame();
+        for (int joint = 0; joint < JOINTS; joint++) {
+            observed.jointAt(joint);
         }
-        for (int member = 0; member < 40; member++) {
-            memberOf(yard, member, text);
+        for (int member = 0; member < MEMBERS; member++) {
+            observed.memberAt(member);
         }
-        text.append("\nend");
-        for (int i = 0; i < 11; i++) {
-            text.append(' ').append(answer(yard, Stresswork::undo));
-        }
-        text.append(' ').append(answer(yard, given -> given.joint(1, 1)));
-        text.append(' ').append(answer(yard, given -> given.member(0, 1, Stresswork.BAR)));
-        text.append(' ').append(yard.rank()).append(' ').append(yard.kept());
-        return text.toString();
+        observed.kinds();
+        observed.steps();
+        observed.numbersToCome();
+        return observed.text.toString();
     }
 
-    private static void jointOf(Stresswork yard, int joint, StringBuilder text) {
-        String x = answer(yard, given -> given.ofJoint(joint, 0));
-        if (x.equals("IndexOutOfBoundsException")) {
-            return;
-        }
-        text.append("\njoint ").append(joint).append(": ").append(x);
-        text.append(' ').append(yard.ofJoint(joint, 1)).append(' ').append(yard.ofJoint(joint, 2));
-        text.append(' ').append(yard.flex(0, joint, false)).append(' ').append(yard.flex(0, joint, true));
-        text.append(' ').append(yard.range(joint, Stresswork.NONE));
-        boolean pinned = yard.pin(joint, false);
-        yard.pin(joint, pinned);
-        text.append(' ').append(pinned);
+    private String tell(Function<Stresswork, Object> call) {
+        String got = answer(yard, call);
+        text.append(' ').append(got);
+        return got;
     }
 
-    private static void memberOf(Stresswork yard, int member, StringBuilder text) {
-        String kept = answer(yard, given -> given.isKept(member));
-        if (kept.equals("IndexOutOfBoundsException")) {
-            return;
+    private void frame() {
+        tell(Stresswork::rank);
+        tell(Stresswork::motions);
+        tell(Stresswork::stresses);
+        tell(given -> given.rankAt(5));
+        tell(Stresswork::kept);
+        tell(Stresswork::lacks);
+        tell(Stresswork::isGlobal);
+        tell(Stresswork::unbalanced);
+        tell(Stresswork::isProper);
+        tell(Stresswork::matrix);
+        tell(given -> given.places(0));
+        tell(given -> given.places(400));
+        tell(given -> given.place(400, 0));
+    }
+
+    private void jointAt(int joint) {
+        text.append("\njoint ").append(joint);
+        if (!tell(given -> given.ofJoint(joint, 0)).equals(NO_SUCH)) {
+            tell(given -> given.ofJoint(joint, 1));
+            tell(given -> given.ofJoint(joint, 2));
+            tell(given -> given.flex(0, joint, false));
+            tell(given -> given.flex(0, joint, true));
+            tell(given -> given.range(joint, Stresswork.NONE));
         }
-        text.append("\nmember ").append(member).append(": ").append(kept);
-        text.append(' ').append(yard.isRedundant(member)).append(' ').append(yard.block(member));
-        text.append(' ').append(yard.balance(0, member));
-        int told = yard.stress(member, 7);
-        text.append(' ').append(told).append(' ').append(yard.isProper());
-        yard.stress(member, -7);
-        text.append(' ').append(yard.isProper());
-        yard.stress(member, told);
+    }
+
+    private void memberAt(int member) {
+        text.append("\nmember ").append(member);
+        if (!tell(given -> given.isKept(member)).equals(NO_SUCH)) {
+            tell(given -> given.balance(0, member));
+            tell(given -> given.stress(member, 0));
+        }
+    }
+
+    /** With all joints pinned and one stress alone, only the kind decides what is proper. */
+    private void kinds() {
+        boolean[] pinned = new boolean[JOINTS];
+        for (int joint = 0; joint < JOINTS; joint++) {
+            int asked = joint;
+            pinned[joint] = tell(given -> given.pin(asked, true)).equals("true");
+        }
+        for (int member = 0; member < MEMBERS; member++) {
+            kindOf(member);
+        }
+        for (int joint = 0; joint < JOINTS; joint++) {
+            int asked = joint;
+            tell(given -> given.pin(asked, pinned[asked]));
+        }
+    }
+
+    private void kindOf(int member) {
+        if (!tell(given -> given.stress(member, 1)).equals(NO_SUCH)) {
+            tell(Stresswork::isProper);
+            tell(given -> given.stress(member, -1));
+            tell(Stresswork::isProper);
+            tell(given -> given.stress(member, 0));
+        }
+    }
+
+    private void steps() {
+        text.append("\nsteps");
+        for (int i = 0; i < JOINTS; i++) {
+            if (tell(Stresswork::undo).equals("IllegalStateException")) {
+                return;
+            }
+        }
+    }
+
+    private void numbersToCome() {
+        text.append("\nthen");
+        for (int member = 0; member < MEMBERS; member++) {
+            int asked = member;
+            tell(given -> given.remove(asked));
+        }
+        tell(given -> given.joint(1, 1));
+        tell(given -> given.member(0, 1, Stresswork.BAR));
     }
 }

@@ -53,65 +53,6 @@ public final class PromisesTest {
         CHECK.same(due, got, what);
     }
 
-    private static void eachRefused(Class<?> due, Supplier<Stresswork> yard, String what,
-            List<Consumer<Stresswork>> calls) {
-        for (int i = 0; i < calls.size(); i++) {
-            CHECK.refused(due, yard, calls.get(i), what + ", wrong input " + i);
-        }
-    }
-
-    /** Joints 0 to 3 around a square, its four sides as members 0 to 3. */
-    private static Stresswork square() {
-        Stresswork yard = new Stresswork();
-        yard.joint(0, 0);
-        yard.joint(20, 0);
-        yard.joint(20, 20);
-        yard.joint(0, 20);
-        for (int i = 0; i < 4; i++) {
-            yard.member(i, (i + 1) % 4, Stresswork.BAR);
-        }
-        return yard;
-    }
-
-    /** The square with both diagonals, members 4 and 5. */
-    private static Stresswork braced() {
-        Stresswork yard = square();
-        yard.member(0, 2, Stresswork.CABLE);
-        yard.member(1, 3, Stresswork.STRUT);
-        return yard;
-    }
-
-    /** A braced square that was grown, split, pinned and told of; member 1 is gone. */
-    private static Stresswork busy() {
-        Stresswork yard = braced();
-        yard.remove(1);
-        yard.pin(3, true);
-        yard.stress(4, 8);
-        yard.range(2, 90);
-        yard.grow(0, 2, -5, 9);
-        yard.split(6, 1, 7, -3);
-        return yard;
-    }
-
-    /** Joints that lie apart, without members. */
-    private static Stresswork loose(int count) {
-        Stresswork yard = new Stresswork();
-        for (int i = 0; i < count; i++) {
-            yard.joint(3 * i, i * i - 40);
-        }
-        return yard;
-    }
-
-    private static Stresswork complete(int count) {
-        Stresswork yard = loose(count);
-        for (int i = 0; i < count; i++) {
-            for (int j = i + 1; j < count; j++) {
-                yard.member(i, j, Stresswork.BAR);
-            }
-        }
-        return yard;
-    }
-
     private static void newObject() {
         Stresswork yard = new Stresswork();
         same(0, yard.rank(), "rank of none");
@@ -125,7 +66,7 @@ public final class PromisesTest {
         same(false, yard.isProper(), "isProper of none");
         same(0, yard.matrix(), "matrix of none");
         same(14641, yard.places(0), "places of none");
-        eachRefused(Check.INDEX, Stresswork::new, "of no joint", List.of(
+        CHECK.eachRefused(Check.INDEX, Stresswork::new, "of no joint", List.of(
                 y -> y.move(0, 0, 0), y -> y.pin(0, true), y -> y.member(0, 1, 0), y -> y.remove(0),
                 y -> y.flex(0, 0, true), y -> y.balance(0, 0), y -> y.ofJoint(0, 0), y -> y.range(0, 0)));
         CHECK.refused(Check.STATE, Stresswork::new, Stresswork::undo, "undo of none");
@@ -144,15 +85,15 @@ public final class PromisesTest {
         for (int i = 3; i < 10; i++) {
             same(i, yard.joint(i, i), "joint " + i);
         }
-        eachRefused(Check.ARGUMENT, PromisesTest::busy, "joint", List.of(
+        CHECK.eachRefused(Check.ARGUMENT, Yards::busy, "joint", List.of(
                 y -> y.joint(51, 0), y -> y.joint(-51, 0), y -> y.joint(0, 51), y -> y.joint(0, -51),
                 y -> y.joint(Integer.MIN_VALUE, 0), y -> y.joint(0, Integer.MAX_VALUE)));
-        CHECK.refused(Check.STATE, () -> loose(10), y -> y.joint(0, 0), "an eleventh joint");
-        CHECK.refused(Check.ARGUMENT, () -> loose(10), y -> y.joint(0, 51), "an eleventh joint, out of range");
+        CHECK.refused(Check.STATE, () -> Yards.loose(10), y -> y.joint(0, 0), "an eleventh joint");
+        CHECK.refused(Check.ARGUMENT, () -> Yards.loose(10), y -> y.joint(0, 51), "an eleventh joint, out of range");
     }
 
     private static void move() {
-        Stresswork yard = square();
+        Stresswork yard = Yards.square();
         yard.move(2, -50, 50);
         same(-50, yard.ofJoint(2, 0), "x after move");
         same(50, yard.ofJoint(2, 1), "y after move");
@@ -162,20 +103,20 @@ public final class PromisesTest {
         yard.move(2, 1, 2);
         same(2, yard.ofJoint(2, 1), "y of a pinned joint that was moved");
         same(true, yard.pin(2, true), "it is pinned still");
-        Stresswork flat = braced();
+        Stresswork flat = Yards.braced();
         same(5, flat.rank(), "rank ahead of a move");
         flat.move(2, 10, 0);
         flat.move(3, -10, 0);
         same(3, flat.rank(), "rank of joints on a line");
-        eachRefused(Check.INDEX, PromisesTest::busy, "move", List.of(
+        CHECK.eachRefused(Check.INDEX, Yards::busy, "move", List.of(
                 y -> y.move(6, 0, 0), y -> y.move(-1, 0, 0), y -> y.move(6, 51, 0),
                 y -> y.move(Integer.MAX_VALUE, 0, 0)));
-        eachRefused(Check.ARGUMENT, PromisesTest::busy, "move", List.of(
+        CHECK.eachRefused(Check.ARGUMENT, Yards::busy, "move", List.of(
                 y -> y.move(0, 51, 0), y -> y.move(0, -51, 0), y -> y.move(0, 0, 51), y -> y.move(0, 0, -51)));
     }
 
     private static void pin() {
-        Stresswork yard = square();
+        Stresswork yard = Yards.square();
         same(false, yard.pin(1, true), "pin answers what was");
         same(true, yard.pin(1, true), "pin once more");
         same(true, yard.pin(1, false), "the pin taken out");
@@ -188,66 +129,55 @@ public final class PromisesTest {
         yard.pin(0, false);
         yard.pin(1, false);
         same(4, yard.motions(), "motions when pins were taken out");
-        eachRefused(Check.INDEX, PromisesTest::busy, "pin", List.of(
+        CHECK.eachRefused(Check.INDEX, Yards::busy, "pin", List.of(
                 y -> y.pin(6, true), y -> y.pin(-1, true), y -> y.pin(6, false)));
     }
 
     private static void member() {
-        Stresswork yard = loose(4);
+        Stresswork yard = Yards.loose(4);
         same(0, yard.member(0, 1, Stresswork.BAR), "first member");
         same(1, yard.member(3, 1, Stresswork.CABLE), "second member");
         same(2, yard.member(2, 3, Stresswork.STRUT), "third member");
         same(2, yard.ofJoint(3, 2), "members of a joint");
         yard.remove(0);
         same(3, yard.member(1, 0, Stresswork.BAR), "a number does not come again");
-        eachRefused(Check.INDEX, PromisesTest::busy, "member", List.of(
+        CHECK.eachRefused(Check.INDEX, Yards::busy, "member", List.of(
                 y -> y.member(6, 0, 0), y -> y.member(0, 6, 0), y -> y.member(-1, 0, 0), y -> y.member(0, -1, 0),
                 y -> y.member(6, 6, 0), y -> y.member(0, 6, 3)));
-        eachRefused(Check.ARGUMENT, PromisesTest::busy, "member", List.of(
+        CHECK.eachRefused(Check.ARGUMENT, Yards::busy, "member", List.of(
                 y -> y.member(0, 0, 0), y -> y.member(1, 5, 3), y -> y.member(1, 4, -1),
                 y -> y.member(0, 1, 3), y -> y.member(0, 1, -1)));
-        eachRefused(Check.STATE, PromisesTest::busy, "member", List.of(
+        CHECK.eachRefused(Check.STATE, Yards::busy, "member", List.of(
                 y -> y.member(0, 1, 0), y -> y.member(1, 0, 1), y -> y.member(2, 4, 2)));
     }
 
-    private static Stresswork used(int members) {
-        Stresswork yard = loose(4);
-        for (int i = 0; i < members; i++) {
-            if (i > 0) {
-                yard.remove(i - 1);
-            }
-            yard.member(0, 1, Stresswork.BAR);
-        }
-        return yard;
-    }
-
     private static void memberRoom() {
-        Stresswork yard = used(39);
+        Stresswork yard = Yards.used(39);
         same(39, yard.member(2, 3, Stresswork.BAR), "the fortieth member");
         same(2, yard.rank(), "both stand");
-        CHECK.refused(Check.STATE, () -> used(40), y -> y.member(2, 3, 0), "a member beyond forty");
+        CHECK.refused(Check.STATE, () -> Yards.used(40), y -> y.member(2, 3, 0), "a member beyond forty");
         CHECK.refused(Check.STATE, () -> {
-            Stresswork gone = used(40);
+            Stresswork gone = Yards.used(40);
             gone.remove(39);
             return gone;
         }, y -> y.member(0, 1, 0), "a member beyond forty where all are gone");
-        CHECK.refused(Check.ARGUMENT, () -> used(40), y -> y.member(2, 3, 9), "beyond forty, of no kind");
+        CHECK.refused(Check.ARGUMENT, () -> Yards.used(40), y -> y.member(2, 3, 9), "beyond forty, of no kind");
     }
 
     private static void remove() {
-        Stresswork yard = braced();
+        Stresswork yard = Yards.braced();
         same(5, yard.remove(0), "members left");
         same(4, yard.remove(5), "members left then");
         same(4, yard.rank(), "rank of those left");
         same(1, yard.ofJoint(1, 2), "members of a joint after it");
         same(3, yard.remove(1), "members left at last");
         same(0, yard.ofJoint(1, 2), "a joint with none");
-        eachRefused(Check.INDEX, PromisesTest::busy, "remove", List.of(
+        CHECK.eachRefused(Check.INDEX, Yards::busy, "remove", List.of(
                 y -> y.remove(1), y -> y.remove(6), y -> y.remove(11), y -> y.remove(-1), y -> y.remove(40)));
     }
 
     private static void ranks() {
-        Stresswork yard = square();
+        Stresswork yard = Yards.square();
         same(4, yard.rank(), "rank of a square");
         same(4, yard.motions(), "motions of a square");
         same(0, yard.stresses(), "stresses of a square");
@@ -273,12 +203,12 @@ public final class PromisesTest {
         same(2, line.rank(), "rank of three joints on a line");
         same(4, line.motions(), "their motions");
         same(1, line.stresses(), "their stresses");
-        same(13, complete(8).rank(), "rank of a complete frame");
-        same(15, complete(8).stresses(), "stresses of a complete frame");
+        same(13, Yards.complete(8).rank(), "rank of a complete frame");
+        same(15, Yards.complete(8).stresses(), "stresses of a complete frame");
     }
 
     private static void rankOfPins() {
-        Stresswork yard = braced();
+        Stresswork yard = Yards.braced();
         yard.pin(0, true);
         yard.pin(1, true);
         same(4, yard.rank(), "rank with two pins");
@@ -293,7 +223,7 @@ public final class PromisesTest {
     }
 
     private static void isRedundant() {
-        Stresswork yard = braced();
+        Stresswork yard = Yards.braced();
         for (int i = 0; i < 6; i++) {
             same(true, yard.isRedundant(i), "a member of the braced square, " + i);
         }
@@ -307,12 +237,12 @@ public final class PromisesTest {
         yard.pin(2, true);
         yard.pin(4, true);
         same(true, yard.isRedundant(single), "a member between pins");
-        eachRefused(Check.INDEX, PromisesTest::busy, "isRedundant", List.of(
+        CHECK.eachRefused(Check.INDEX, Yards::busy, "isRedundant", List.of(
                 y -> y.isRedundant(1), y -> y.isRedundant(6), y -> y.isRedundant(11), y -> y.isRedundant(-1)));
     }
 
     private static void flex() {
-        Stresswork yard = square();
+        Stresswork yard = Yards.square();
         yard.pin(0, true);
         yard.pin(1, true);
         same(1, yard.flex(0, 3, false), "the flex of a square with its base pinned");
@@ -334,7 +264,7 @@ public final class PromisesTest {
         same(moved(3, 2), (long) rod.flex(2, 0, false), "x of 0 when y of 1 moves");
         same(1, rod.flex(2, 1, true), "y of 1 moves by 1");
         same(Stresswork.NONE, rod.flex(3, 1, true), "a rod has three");
-        eachRefused(Check.INDEX, PromisesTest::busy, "flex", List.of(
+        CHECK.eachRefused(Check.INDEX, Yards::busy, "flex", List.of(
                 y -> y.flex(0, 6, true), y -> y.flex(0, -1, true), y -> y.flex(-1, 0, true),
                 y -> y.flex(99, 6, false), y -> y.flex(Integer.MIN_VALUE, 0, false)));
     }
@@ -346,7 +276,7 @@ public final class PromisesTest {
     }
 
     private static void balance() {
-        Stresswork yard = braced();
+        Stresswork yard = Yards.braced();
         for (int i = 0; i < 4; i++) {
             same(PRIME - 1, yard.balance(0, i), "balance at a side");
         }
@@ -364,7 +294,7 @@ public final class PromisesTest {
         same(0, yard.balance(0, again), "the one between pins is another balance's");
         same(1, yard.balance(1, again), "that of its own");
         same(0, yard.balance(1, 2), "which has nothing elsewhere");
-        eachRefused(Check.INDEX, PromisesTest::busy, "balance", List.of(
+        CHECK.eachRefused(Check.INDEX, Yards::busy, "balance", List.of(
                 y -> y.balance(0, 1), y -> y.balance(0, 6), y -> y.balance(0, 11), y -> y.balance(0, -1),
                 y -> y.balance(-1, 0), y -> y.balance(-1, 6)));
     }
@@ -388,7 +318,7 @@ public final class PromisesTest {
         int still = still();
         same(0, yard.rankAt(still), "the seed that stays");
         same(5, yard.rankAt(still + 1), "the seed behind it");
-        eachRefused(Check.ARGUMENT, PromisesTest::busy, "rankAt", List.of(
+        CHECK.eachRefused(Check.ARGUMENT, Yards::busy, "rankAt", List.of(
                 y -> y.rankAt(-1), y -> y.rankAt(PRIME), y -> y.rankAt(Integer.MIN_VALUE)));
     }
 
@@ -401,7 +331,7 @@ public final class PromisesTest {
     }
 
     private static void onLine(int a, int b, int c, int... seeds) {
-        Stresswork yard = loose(10);
+        Stresswork yard = Yards.loose(10);
         yard.member(a, b, Stresswork.BAR);
         yard.member(b, c, Stresswork.CABLE);
         yard.member(c, a, Stresswork.STRUT);
@@ -418,7 +348,7 @@ public final class PromisesTest {
     }
 
     private static void kept() {
-        Stresswork yard = braced();
+        Stresswork yard = Yards.braced();
         same(5, yard.kept(), "kept of a braced square");
         for (int i = 0; i < 6; i++) {
             same(i != 5, yard.isKept(i), "whether it is kept, " + i);
@@ -430,13 +360,13 @@ public final class PromisesTest {
             yard.move(i, 0, 0);
         }
         same(5, yard.kept(), "points do not matter");
-        same(15, complete(9).kept(), "kept of nine joints");
-        eachRefused(Check.INDEX, PromisesTest::busy, "isKept", List.of(
+        same(15, Yards.complete(9).kept(), "kept of nine joints");
+        CHECK.eachRefused(Check.INDEX, Yards::busy, "isKept", List.of(
                 y -> y.isKept(1), y -> y.isKept(6), y -> y.isKept(11), y -> y.isKept(-1)));
     }
 
     private static void block() {
-        Stresswork yard = braced();
+        Stresswork yard = Yards.braced();
         yard.joint(40, 40);
         yard.joint(45, 40);
         int single = yard.member(2, 4, Stresswork.BAR);
@@ -450,17 +380,17 @@ public final class PromisesTest {
         yard.remove(1);
         same(10, yard.block(5), "two joints that no member holds to others");
         same(13, yard.block(2), "a triangle that is left");
-        eachRefused(Check.INDEX, PromisesTest::busy, "block", List.of(
+        CHECK.eachRefused(Check.INDEX, Yards::busy, "block", List.of(
                 y -> y.block(1), y -> y.block(6), y -> y.block(11), y -> y.block(-1)));
     }
 
     private static void lacks() {
-        same(Stresswork.NONE, loose(1).lacks(), "lacks of one joint");
-        same(1, loose(2).lacks(), "lacks of two joints");
-        same(17, loose(10).lacks(), "lacks of ten joints");
-        same(0, complete(2).lacks(), "lacks of a rod");
-        same(1, square().lacks(), "lacks of a square");
-        Stresswork yard = braced();
+        same(Stresswork.NONE, Yards.loose(1).lacks(), "lacks of one joint");
+        same(1, Yards.loose(2).lacks(), "lacks of two joints");
+        same(17, Yards.loose(10).lacks(), "lacks of ten joints");
+        same(0, Yards.complete(2).lacks(), "lacks of a rod");
+        same(1, Yards.square().lacks(), "lacks of a square");
+        Stresswork yard = Yards.braced();
         same(0, yard.lacks(), "lacks of a braced square");
         yard.joint(9, 9);
         same(2, yard.lacks(), "lacks of a joint more");
@@ -471,20 +401,20 @@ public final class PromisesTest {
     }
 
     private static void isGlobal() {
-        same(true, loose(1).isGlobal(), "one joint");
-        same(false, loose(2).isGlobal(), "two joints without a member");
-        same(true, complete(2).isGlobal(), "two joints with one");
-        Stresswork three = loose(3);
+        same(true, Yards.loose(1).isGlobal(), "one joint");
+        same(false, Yards.loose(2).isGlobal(), "two joints without a member");
+        same(true, Yards.complete(2).isGlobal(), "two joints with one");
+        Stresswork three = Yards.loose(3);
         three.member(0, 1, Stresswork.BAR);
         three.member(1, 2, Stresswork.BAR);
         same(false, three.isGlobal(), "three joints with two members");
         three.member(0, 2, Stresswork.STRUT);
         same(true, three.isGlobal(), "a triangle");
-        Stresswork four = square();
+        Stresswork four = Yards.square();
         four.member(0, 2, Stresswork.BAR);
         same(false, four.isGlobal(), "a square with one diagonal");
-        same(true, braced().isGlobal(), "a braced square");
-        Stresswork wheel = square();
+        same(true, Yards.braced().isGlobal(), "a braced square");
+        Stresswork wheel = Yards.square();
         wheel.joint(10, 10);
         for (int i = 0; i < 4; i++) {
             wheel.member(i, 4, Stresswork.BAR);
@@ -492,37 +422,12 @@ public final class PromisesTest {
         same(true, wheel.isGlobal(), "a wheel");
         wheel.remove(0);
         same(false, wheel.isGlobal(), "a wheel without a side");
-        same(false, hinged().isGlobal(), "two blocks that turn around two joints");
-        same(false, prism().isGlobal(), "a prism: none can be taken away");
-    }
-
-    /** Two complete frames of four joints that have two joints in common: rigid, also without any one. */
-    private static Stresswork hinged() {
-        Stresswork yard = complete(4);
-        yard.joint(-30, 1);
-        yard.joint(-33, 5);
-        for (int i = 0; i < 2; i++) {
-            for (int j = 4; j < 6; j++) {
-                yard.member(i, j, Stresswork.BAR);
-            }
-        }
-        yard.member(4, 5, Stresswork.BAR);
-        return yard;
-    }
-
-    /** Two triangles with three members between them: nine, as many as six joints need. */
-    private static Stresswork prism() {
-        Stresswork yard = loose(6);
-        for (int i = 0; i < 3; i++) {
-            yard.member(i, (i + 1) % 3, Stresswork.BAR);
-            yard.member(3 + i, 3 + (i + 1) % 3, Stresswork.BAR);
-            yard.member(i, 3 + i, Stresswork.BAR);
-        }
-        return yard;
+        same(false, Yards.hinged().isGlobal(), "two blocks that turn around two joints");
+        same(false, Yards.prism().isGlobal(), "a prism: none can be taken away");
     }
 
     private static void grow() {
-        Stresswork yard = loose(2);
+        Stresswork yard = Yards.loose(2);
         same(2, yard.grow(1, 0, -50, 50), "the joint that is grown");
         same(-50, yard.ofJoint(2, 0), "its x");
         same(50, yard.ofJoint(2, 1), "its y");
@@ -537,19 +442,19 @@ public final class PromisesTest {
         yard.pin(2, true);
         same(true, yard.isProper(), "both are bars");
         same(2, yard.member(0, 1, Stresswork.BAR), "the number behind the bars");
-        eachRefused(Check.INDEX, PromisesTest::busy, "grow", List.of(
+        CHECK.eachRefused(Check.INDEX, Yards::busy, "grow", List.of(
                 y -> y.grow(6, 0, 0, 0), y -> y.grow(0, 6, 0, 0), y -> y.grow(-1, 0, 0, 0),
                 y -> y.grow(0, -1, 0, 0), y -> y.grow(6, 6, 99, 0)));
-        eachRefused(Check.ARGUMENT, PromisesTest::busy, "grow", List.of(
+        CHECK.eachRefused(Check.ARGUMENT, Yards::busy, "grow", List.of(
                 y -> y.grow(0, 0, 0, 0), y -> y.grow(0, 1, 51, 0), y -> y.grow(0, 1, -51, 0),
                 y -> y.grow(0, 1, 0, 51), y -> y.grow(0, 1, 0, -51)));
-        CHECK.refused(Check.STATE, () -> loose(10), y -> y.grow(0, 1, 0, 0), "grow with ten joints");
-        CHECK.refused(Check.ARGUMENT, () -> loose(10), y -> y.grow(0, 1, 0, 51), "grow with ten, out of range");
-        CHECK.refused(Check.ARGUMENT, () -> loose(10), y -> y.grow(1, 1, 0, 0), "grow with ten, from one joint");
+        CHECK.refused(Check.STATE, () -> Yards.loose(10), y -> y.grow(0, 1, 0, 0), "grow with ten joints");
+        CHECK.refused(Check.ARGUMENT, () -> Yards.loose(10), y -> y.grow(0, 1, 0, 51), "grow with ten, out of range");
+        CHECK.refused(Check.ARGUMENT, () -> Yards.loose(10), y -> y.grow(1, 1, 0, 0), "grow with ten, from one joint");
     }
 
     private static void split() {
-        Stresswork yard = loose(3);
+        Stresswork yard = Yards.loose(3);
         yard.member(2, 0, Stresswork.CABLE);
         same(3, yard.split(0, 1, 50, -50), "the joint of a split");
         same(50, yard.ofJoint(3, 0), "its x");
@@ -568,15 +473,15 @@ public final class PromisesTest {
         }
         same(true, yard.isProper(), "all three are bars");
         same(4, yard.member(2, 0, Stresswork.BAR), "the ends can have a member again");
-        eachRefused(Check.INDEX, PromisesTest::busy, "split", List.of(
+        CHECK.eachRefused(Check.INDEX, Yards::busy, "split", List.of(
                 y -> y.split(1, 0, 0, 0), y -> y.split(6, 1, 0, 0), y -> y.split(11, 0, 0, 0),
                 y -> y.split(-1, 0, 0, 0), y -> y.split(0, 6, 0, 0), y -> y.split(0, -1, 0, 0),
                 y -> y.split(0, 6, 99, 0)));
-        eachRefused(Check.ARGUMENT, PromisesTest::busy, "split", List.of(
+        CHECK.eachRefused(Check.ARGUMENT, Yards::busy, "split", List.of(
                 y -> y.split(0, 0, 0, 0), y -> y.split(0, 1, 0, 0), y -> y.split(0, 2, 51, 0),
                 y -> y.split(0, 2, -51, 0), y -> y.split(0, 2, 0, 51), y -> y.split(0, 2, 0, -51)));
         Supplier<Stresswork> full = () -> {
-            Stresswork ten = loose(10);
+            Stresswork ten = Yards.loose(10);
             ten.member(0, 1, Stresswork.BAR);
             return ten;
         };
@@ -586,14 +491,14 @@ public final class PromisesTest {
     }
 
     private static void stepRoom() {
-        same(4, used(38).grow(2, 3, 0, 0), "grow where 38 were set");
-        CHECK.refused(Check.STATE, () -> used(39), y -> y.grow(2, 3, 0, 0), "grow where 39 were set");
-        same(4, used(37).split(36, 3, 0, 0), "split where 37 were set");
-        CHECK.refused(Check.STATE, () -> used(38), y -> y.split(37, 3, 0, 0), "split where 38 were set");
+        same(4, Yards.used(38).grow(2, 3, 0, 0), "grow where 38 were set");
+        CHECK.refused(Check.STATE, () -> Yards.used(39), y -> y.grow(2, 3, 0, 0), "grow where 39 were set");
+        same(4, Yards.used(37).split(36, 3, 0, 0), "split where 37 were set");
+        CHECK.refused(Check.STATE, () -> Yards.used(38), y -> y.split(37, 3, 0, 0), "split where 38 were set");
     }
 
     private static void undo() {
-        Stresswork yard = square();
+        Stresswork yard = Yards.square();
         yard.grow(0, 2, 5, 5);
         yard.pin(0, true);
         yard.range(4, 17);
@@ -611,7 +516,7 @@ public final class PromisesTest {
         same(Stresswork.NONE, yard.range(4, 3), "without a range");
         same(8, yard.member(4, 0, Stresswork.BAR), "the numbers of bars do not come again");
         same("IndexOutOfBoundsException", Observed.answer(yard, y -> y.remove(7)), "a bar that is gone");
-        Stresswork many = loose(2);
+        Stresswork many = Yards.loose(2);
         for (int i = 0; i < 20; i++) {
             same(2, many.grow(0, 1, i, i), "grown once more");
             same(0, many.undo(), "undone once more");
@@ -621,11 +526,11 @@ public final class PromisesTest {
 
     private static void undoRefused() {
         Supplier<Stresswork> grown = () -> {
-            Stresswork yard = square();
+            Stresswork yard = Yards.square();
             yard.grow(0, 2, 5, 5);
             return yard;
         };
-        CHECK.refused(Check.STATE, PromisesTest::square, Stresswork::undo, "undo without a step");
+        CHECK.refused(Check.STATE, Yards::square, Stresswork::undo, "undo without a step");
         CHECK.refused(Check.STATE, () -> {
             Stresswork yard = grown.get();
             yard.joint(1, 1);
@@ -662,7 +567,7 @@ public final class PromisesTest {
     }
 
     private static void undoOfSplits() {
-        Stresswork yard = braced();
+        Stresswork yard = Yards.braced();
         yard.stress(4, 9);
         same(4, yard.split(4, 1, 3, 3), "split of a cable");
         same(0, yard.undo(), "undo of a split");
@@ -676,7 +581,7 @@ public final class PromisesTest {
         same("IndexOutOfBoundsException", Observed.answer(yard, y -> y.isKept(4)), "it is gone then");
         yard.remove(another);
         same("IndexOutOfBoundsException", Observed.answer(yard, y -> y.isKept(4)), "for good");
-        Stresswork nested = loose(3);
+        Stresswork nested = Yards.loose(3);
         nested.grow(0, 1, 4, 4);
         nested.split(1, 2, 5, 5);
         nested.split(4, 0, 6, 6);
@@ -686,13 +591,13 @@ public final class PromisesTest {
         same(true, nested.isKept(1), "the bar of the first step is back");
         same(0, nested.undo(), "the first of three steps");
         same(0, nested.kept(), "nothing is left");
-        Stresswork lost = loose(3);
+        Stresswork lost = Yards.loose(3);
         lost.grow(0, 1, 4, 4);
         lost.split(1, 2, 5, 5);
         lost.member(1, 3, Stresswork.BAR);
         same(1, lost.undo(), "a split bar whose ends have another one");
         same("IllegalStateException", Observed.answer(lost, Stresswork::undo), "its own step is lost");
-        Stresswork third = loose(3);
+        Stresswork third = Yards.loose(3);
         third.member(0, 1, Stresswork.BAR);
         third.split(0, 2, 5, 5);
         third.remove(3);
@@ -700,7 +605,7 @@ public final class PromisesTest {
     }
 
     private static void stress() {
-        Stresswork yard = braced();
+        Stresswork yard = Yards.braced();
         same(0, yard.stress(3, 99), "no stress at first");
         same(99, yard.stress(3, -99), "the one before");
         same(-99, yard.stress(3, 0), "the one before that");
@@ -708,15 +613,15 @@ public final class PromisesTest {
         yard.remove(1);
         int again = yard.member(1, 2, Stresswork.BAR);
         same(0, yard.stress(again, 1), "a new member has none");
-        eachRefused(Check.INDEX, PromisesTest::busy, "stress", List.of(
+        CHECK.eachRefused(Check.INDEX, Yards::busy, "stress", List.of(
                 y -> y.stress(1, 0), y -> y.stress(6, 0), y -> y.stress(11, 0), y -> y.stress(-1, 0),
                 y -> y.stress(11, 100)));
-        eachRefused(Check.ARGUMENT, PromisesTest::busy, "stress", List.of(
+        CHECK.eachRefused(Check.ARGUMENT, Yards::busy, "stress", List.of(
                 y -> y.stress(0, 100), y -> y.stress(0, -100), y -> y.stress(0, Integer.MIN_VALUE)));
     }
 
     private static void unbalanced() {
-        Stresswork yard = braced();
+        Stresswork yard = Yards.braced();
         same(0, yard.unbalanced(), "nothing is told");
         yard.stress(0, 3);
         same(3, yard.unbalanced(), "the ends of a stress");
@@ -751,7 +656,7 @@ public final class PromisesTest {
     }
 
     private static void isProper() {
-        Stresswork yard = braced();
+        Stresswork yard = Yards.braced();
         same(false, yard.isProper(), "nothing is told");
         for (int i = 0; i < 4; i++) {
             yard.stress(i, -3);
@@ -765,7 +670,7 @@ public final class PromisesTest {
         yard.stress(4, -3);
         yard.stress(5, -3);
         same(false, yard.isProper(), "a cable below 0");
-        Stresswork right = square();
+        Stresswork right = Yards.square();
         right.member(0, 2, Stresswork.CABLE);
         right.member(1, 3, Stresswork.CABLE);
         for (int i = 0; i < 4; i++) {
@@ -789,7 +694,7 @@ public final class PromisesTest {
         same(false, right.isProper(), "a strut above 0, all pinned");
         right.remove(6);
         same(true, right.isProper(), "a member that is gone does not count");
-        Stresswork gone = loose(2);
+        Stresswork gone = Yards.loose(2);
         gone.member(0, 1, Stresswork.BAR);
         gone.pin(0, true);
         gone.pin(1, true);
@@ -800,7 +705,7 @@ public final class PromisesTest {
     }
 
     private static void matrix() {
-        Stresswork yard = braced();
+        Stresswork yard = Yards.braced();
         same(0, yard.matrix(), "nothing is told");
         yard.stress(0, 1);
         same(1, yard.matrix(), "one stress");
@@ -818,7 +723,7 @@ public final class PromisesTest {
         same(1, yard.matrix(), "a stress that balances");
         yard.remove(5);
         same(2, yard.matrix(), "a member that is gone does not count");
-        Stresswork line = loose(3);
+        Stresswork line = Yards.loose(3);
         line.member(0, 1, Stresswork.BAR);
         line.member(1, 2, Stresswork.BAR);
         line.member(0, 2, Stresswork.BAR);
@@ -843,7 +748,7 @@ public final class PromisesTest {
         same(true, yard.reaches(0, 0, 0, 0), "no links");
         same(true, yard.reaches(1000000, 1000000, 1000000, 3000000), "the longest chain");
         same(false, yard.reaches(1000000, 1000000, 999999, 3000000), "a chain that is too short");
-        eachRefused(Check.ARGUMENT, PromisesTest::busy, "reaches", List.of(
+        CHECK.eachRefused(Check.ARGUMENT, Yards::busy, "reaches", List.of(
                 y -> y.reaches(-1, 0, 0, 0), y -> y.reaches(0, -1, 0, 0), y -> y.reaches(0, 0, -1, 0),
                 y -> y.reaches(0, 0, 0, -1), y -> y.reaches(1000001, 0, 0, 0), y -> y.reaches(0, 1000001, 0, 0),
                 y -> y.reaches(0, 0, 1000001, 0), y -> y.reaches(0, 0, 0, 3000001)));
@@ -863,7 +768,7 @@ public final class PromisesTest {
         same(Stresswork.NOT_EVEN, yard.folds(90, 90, 91, 89, 1), "not even");
         same(Stresswork.NOT_ROUND, yard.folds(359, 359, 359, 359, 0), "the widest angles");
         same(Stresswork.NOT_ROUND, yard.folds(1, 1, 1, 1, 15), "the narrowest angles");
-        eachRefused(Check.ARGUMENT, PromisesTest::busy, "folds", List.of(
+        CHECK.eachRefused(Check.ARGUMENT, Yards::busy, "folds", List.of(
                 y -> y.folds(0, 90, 90, 90, 1), y -> y.folds(90, 0, 90, 90, 1), y -> y.folds(90, 90, 0, 90, 1),
                 y -> y.folds(90, 90, 90, 0, 1), y -> y.folds(360, 90, 90, 90, 1), y -> y.folds(90, 360, 90, 90, 1),
                 y -> y.folds(90, 90, 360, 90, 1), y -> y.folds(90, 90, 90, 360, 1),
@@ -871,20 +776,20 @@ public final class PromisesTest {
     }
 
     private static void range() {
-        Stresswork yard = square();
+        Stresswork yard = Yards.square();
         same(Stresswork.NONE, yard.range(1, 0), "no range at first");
         same(0, yard.range(1, 30000), "the one before");
         same(30000, yard.range(1, Stresswork.NONE), "taken back");
         same(Stresswork.NONE, yard.range(1, Stresswork.NONE), "none again");
         same(14641, yard.places(0), "no range is left");
-        eachRefused(Check.INDEX, PromisesTest::busy, "range", List.of(
+        CHECK.eachRefused(Check.INDEX, Yards::busy, "range", List.of(
                 y -> y.range(6, 0), y -> y.range(-1, 0), y -> y.range(6, 30001)));
-        eachRefused(Check.ARGUMENT, PromisesTest::busy, "range", List.of(
+        CHECK.eachRefused(Check.ARGUMENT, Yards::busy, "range", List.of(
                 y -> y.range(0, -2), y -> y.range(0, 30001), y -> y.range(0, Integer.MIN_VALUE)));
     }
 
     private static void places() {
-        Stresswork yard = square();
+        Stresswork yard = Yards.square();
         yard.range(0, 25);
         same(12, yard.places(0), "whole points at a distance of 5");
         same(9, withRange(yard, 0, 0).places(2), "points within a square of 2");
@@ -896,9 +801,9 @@ public final class PromisesTest {
         same(1, yard.places(0), "three circles");
         yard.move(2, 21, 20);
         same(0, yard.places(0), "a range is to where the joint is now");
-        same(14641, loose(3).places(5000), "without ranges all fit");
+        same(14641, Yards.loose(3).places(5000), "without ranges all fit");
         same(1, corner().places(0), "a corner");
-        eachRefused(Check.ARGUMENT, PromisesTest::busy, "places", List.of(
+        CHECK.eachRefused(Check.ARGUMENT, Yards::busy, "places", List.of(
                 y -> y.places(-1), y -> y.places(5001)));
     }
 
@@ -923,7 +828,7 @@ public final class PromisesTest {
         same(Stresswork.NONE, yard.place(0, 14641), "none behind it");
         same(Stresswork.NONE, yard.place(0, Integer.MAX_VALUE), "none far behind it");
         same(0, corner().place(0, 0), "the corner");
-        Stresswork ring = square();
+        Stresswork ring = Yards.square();
         ring.range(1, 1);
         same(79060, ring.place(0, 0), "the first at a distance of 1");
         same(80059, ring.place(0, 1), "the second");
@@ -931,22 +836,22 @@ public final class PromisesTest {
         same(81060, ring.place(0, 3), "the last");
         same(Stresswork.NONE, ring.place(0, 4), "none more");
         same(80060, ring.place(1, 4), "with an error more fit");
-        eachRefused(Check.INDEX, PromisesTest::busy, "place", List.of(
+        CHECK.eachRefused(Check.INDEX, Yards::busy, "place", List.of(
                 y -> y.place(0, -1), y -> y.place(-1, -1), y -> y.place(5001, Integer.MIN_VALUE)));
-        eachRefused(Check.ARGUMENT, PromisesTest::busy, "place", List.of(
+        CHECK.eachRefused(Check.ARGUMENT, Yards::busy, "place", List.of(
                 y -> y.place(-1, 0), y -> y.place(5001, 0)));
     }
 
     private static void ofJoint() {
-        Stresswork yard = braced();
+        Stresswork yard = Yards.braced();
         same(20, yard.ofJoint(1, 0), "x");
         same(0, yard.ofJoint(1, 1), "y");
         same(3, yard.ofJoint(1, 2), "members");
         yard.pin(1, true);
         same(3, yard.ofJoint(1, 2), "members of a pinned joint");
-        eachRefused(Check.INDEX, PromisesTest::busy, "ofJoint", List.of(
+        CHECK.eachRefused(Check.INDEX, Yards::busy, "ofJoint", List.of(
                 y -> y.ofJoint(6, 0), y -> y.ofJoint(-1, 0), y -> y.ofJoint(6, 3)));
-        eachRefused(Check.ARGUMENT, PromisesTest::busy, "ofJoint", List.of(
+        CHECK.eachRefused(Check.ARGUMENT, Yards::busy, "ofJoint", List.of(
                 y -> y.ofJoint(0, 3), y -> y.ofJoint(0, -1), y -> y.ofJoint(0, Integer.MAX_VALUE)));
     }
 }
